@@ -221,6 +221,9 @@ public final class EndsTest {
         CHECKS.due("it is not closed", x.count(5), 0);
         CHECKS.due("a new region", x.region(1, 0), 7);
         CHECKS.due("goes on", Checks.turns(x, 7, 1), 1);
+        x.region(2, 0);
+        Checks.turns(x, 8, 1);
+        CHECKS.due("the last region's unit counts, earlier ones no more", x.shutdown(true), 1);
         x.close();
         CHECKS.due("closed, quick", x.shutdown(true), -5);
         CHECKS.due("closed, slowly", x.shutdown(false), -5);
