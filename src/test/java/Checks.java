@@ -1,3 +1,6 @@
+import java.util.ArrayList;
+import java.util.List;
+
 /** Compares answers with the ones that are due, and ends a test's program with what it found. */
 final class Checks {
     private int checked = 0;
@@ -49,9 +52,27 @@ final class Checks {
     /** The whole log as one text, so that an entry too many or in the wrong place shows. */
     static String logOf(RegionThreads x) {
         StringBuilder text = new StringBuilder();
-        for (int i = 0; x.log(i) != 0; i++) {
-            text.append(i == 0 ? "" : " ").append(x.log(i));
+        int entry = x.log(0);
+        for (int i = 1; entry != 0; i++) {
+            text.append(i == 1 ? "" : " ").append(entry);
+            entry = x.log(i);
         }
         return text.toString();
+    }
+
+    /** Numbers that are not least .. most: the next ones, far ones, and ones with the low bits of a right one. */
+    static List<Integer> outside(int least, int most) {
+        int[] tried = {
+            least - 1, most + 1, least - 2, most + 2, -least, -most, -1, 0, least - 256, most - 256, least + 256, most + 256,
+            least + 65536, most - 65536, Integer.MIN_VALUE, Integer.MIN_VALUE + least, Integer.MIN_VALUE + most,
+            Integer.MAX_VALUE, Integer.MAX_VALUE - 1
+        };
+        List<Integer> outside = new ArrayList<>();
+        for (int number : tried) {
+            if ((number < least || number > most) && !outside.contains(number)) {
+                outside.add(number);
+            }
+        }
+        return outside;
     }
 }

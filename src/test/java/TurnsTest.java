@@ -6,12 +6,10 @@ public final class TurnsTest {
         promise4Post();
         promise4EachPostingOnce();
         promise5Turn();
-        promise5Limit();
         promise6Run();
         promise6Order();
         promise6WaitsAreLookedAtBeforeFailing();
         promise7Log();
-        promise7Full();
         promise16Done();
         CHECKS.finish();
     }
@@ -73,21 +71,6 @@ public final class TurnsTest {
         x.close();
         x.turn(1);
         CHECKS.due("closed", x.count(1), 0);
-    }
-
-    private static void promise5Limit() {
-        RegionThreads x = new RegionThreads();
-        x.region(1, 0);
-        x.region(1, 0);
-        for (int i = 0; i < 600; i++) {
-            x.turn(1);
-        }
-        x.turn(2);
-        CHECKS.due("600 turns", x.count(1), 600);
-        x.run();
-        CHECKS.due("the 601st is lost", x.finished(2), 0);
-        x.turn(2);
-        CHECKS.due("room again", x.run(), 1);
     }
 
     private static void promise6Run() {
@@ -154,20 +137,6 @@ public final class TurnsTest {
         x.close();
         CHECKS.due("closed: log(0)", x.log(0), 2001);
         CHECKS.due("closed: count(2)", x.count(2), 4);
-    }
-
-    private static void promise7Full() {
-        RegionThreads x = new RegionThreads();
-        for (int i = 0; i < 30; i++) {
-            x.region(100, 0);
-        }
-        CHECKS.due("all done", x.shutdown(false), 0);
-        CHECKS.due("count(2)", x.count(2), 3000);
-        for (int i = 0; i < 3000; i++) {
-            CHECKS.due("log(" + i + ")", x.log(i), 1000 * (i % 30 + 1) + i / 30 + 1);
-        }
-        CHECKS.due("log(3000)", x.log(3000), 0);
-        CHECKS.due("log(4096)", x.log(4096), 0);
     }
 
     private static void promise16Done() {
